@@ -57,6 +57,8 @@ public final class ConsulDesk {
     private static final int SEALED = 11;
     /** The name of a term that is a number alone: it measures 1 in every paper. */
     private static final int UNIT = 12;
+    /** Stands ahead of the first token, so that going over it leads there. */
+    private static final int START = 13;
 
     private static final int[] WORTHS = {1, 2, 5, 10, 50};
     /**
@@ -69,7 +71,8 @@ public final class ConsulDesk {
     private final Tariff[] tariffs = new Tariff[TARIFFS];
     private final Paper[] papers = new Paper[PAPERS];
     private final Tape tape = new Tape();
-    private final Reader reader = new Reader();
+    private final Tokens tokens = new Tokens();
+    private final Reader reader = new Reader(tokens);
     private final Change change = new Change();
     private int portCount = 0;
     private int tariffCount = 0;
@@ -114,7 +117,7 @@ public final class ConsulDesk {
         if (n < 0 || n > tape.length) {
             return refuse(BAD_NUMBER);
         }
-        reader.cut(tape, n);
+        tokens.cut(tape, n);
         Line[] lines = reader.read();
         tape.clear();
         lastFault = reader.fault;
@@ -584,20 +587,21 @@ public final class ConsulDesk {
     private static final class Reader {
         int fault = 0;
         int place = 0;
-        private final Tokens tokens = new Tokens();
+        private final Tokens tokens;
         private int next = 0;
-        private int kind = END;
+        private int kind = START;
         private int number = 0;
 
-        void cut(Tape tape, int end) {
-            tokens.cut(tape, end);
-            next = 0;
-            fault = 0;
-            step();
+        Reader(Tokens tokens) {
+            this.tokens = tokens;
         }
 
         /** The lines of the text that was cut, behind the last one null; null if it has a fault. */
         Line[] read() {
+            fault = 0;
+            next = 0;
+            kind = START;
+            skip(START);
             Line[] lines = new Line[LINES];
             for (int ahead = 0; ahead <= LINES; ahead++) {
                 Line line = readLine(ahead);
@@ -708,24 +712,19 @@ public final class ConsulDesk {
             return value;
         }
 
-        /** Goes over a token if it stands here. */
+        /** Goes over a token if it stands here; behind a fault over none, so that place stays at it. */
         private boolean skip(int wanted) {
             if (fault != 0 || kind != wanted) {
                 return false;
             }
-            next++;
-            step();
-            return true;
-        }
-
-        /** Loads the token that stands here; as nothing is gone over behind a fault, place stays at it. */
-        private void step() {
             if (next >= 0 && next < tokens.kinds.length && next < tokens.places.length
                 && next < tokens.numbers.length) {
                 kind = tokens.kinds[next];
                 place = tokens.places[next];
                 number = tokens.numbers[next];
+                next++;
             }
+            return true;
         }
 
         /** Only the first fault of a text counts. */

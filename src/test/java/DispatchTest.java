@@ -13,6 +13,7 @@ public final class DispatchTest {
         promise10Came();
         promise11Asked();
         severalLost();
+        askedForWhenTheNextComes();
         oneLongPassIsManyShort();
         promise12Under();
         promise12Accounts();
@@ -199,6 +200,29 @@ public final class DispatchTest {
         CHECK.due("came 1", desk.came(0, 1), 15);
         CHECK.due("the fourth is lost and not asked for", desk.asked(0, 3), 0);
         CHECK.due("in force", desk.force(0), 2);
+    }
+
+    private static void askedForWhenTheNextComes() {
+        ConsulDesk desk = new ConsulDesk();
+        desk.port(10);
+        for (int i = 0; i < 4; i++) {
+            Desks.tell(desk, "fee 1 is 1");
+            desk.pass(2);
+        }
+        desk.lost(0, 0);
+        desk.lost(0, 1);
+        desk.lost(0, 2);
+        desk.pass(7);
+        CHECK.due("nothing has come by day 15", desk.asked(0, 0), 0);
+        desk.pass(1);
+        CHECK.due("asked on day 16", desk.asked(0, 0), 1);
+        CHECK.due("asks", desk.under(1), 3);
+        desk.pass(19);
+        CHECK.due("day 35", desk.came(0, 0), -2);
+        CHECK.due("in force on day 35", desk.force(0), -2);
+        desk.pass(1);
+        CHECK.due("day 36", desk.came(0, 0), 36);
+        CHECK.due("in force on day 36", desk.force(0), 3);
     }
 
     private static void oneLongPassIsManyShort() {

@@ -63,6 +63,7 @@ public final class PaperTest {
         fee("fee 1 is 7", 1, 0, 1, 7);
         fee("fee 1 is 7", 2, 0, 1, -2);
         fee("fee 0 is 1;fee 9 is 2;fee 9 is 3", 9, 0, 1, 2);
+        fee("fee 0 is 1;fee 9 is 2;fee 9 is 3", 0, 0, 1, 1);
         fee("fee 1 when value<5 is 1;fee 1 when value<9 is 2", 1, 4, 1, 1);
         fee("fee 1 when value<5 is 1;fee 1 when value<9 is 2", 1, 5, 1, 2);
         fee("fee 1 when value<5 is 1;fee 1 when value<9 is 2", 1, 9, 1, -2);
@@ -119,6 +120,7 @@ public final class PaperTest {
         CHECK.due("trouble", desk.trouble(), 6);
         CHECK.due("chest stays", desk.about(0, 1), 7);
         CHECK.due("a fee of 0 needs none", desk.seal(0, 2, 5, 6), 1);
+        CHECK.due("trouble", desk.trouble(), 0);
         CHECK.due("its stamps", desk.paper(1, 7), 0);
         Desks.tell(desk, "fee 2 is 1");
         CHECK.due("by what is in force there", desk.seal(0, 2, 0, 1), 2);

@@ -55,11 +55,17 @@ public final class TariffTextTest {
         CHECK.due("the rest of the tape is gone", desk.count(4), 0);
         CHECK.due("second", Desks.tell(desk, "fee 2 is 2"), 1);
         CHECK.due("count(1)", desk.count(1), 2);
+        Desks.feed(desk, "fee 1 is 1234");
+        CHECK.due("a number ends at n", desk.tariff(12), 2);
+        Desks.feed(desk, "fee 1 is values");
+        CHECK.due("a word ends at n", desk.tariff(14), 3);
         desk.port(3);
-        CHECK.due("a cut number", Desks.tell(desk, "fee 1 is 12"), 2);
+        CHECK.due("fee by the number's first digits", desk.fee(2, 0, 1, 0, 1), 123);
+        CHECK.due("fee by the word", desk.fee(3, 0, 1, 45, 1), 45);
+        CHECK.due("a short number", Desks.tell(desk, "fee 1 is 12"), 4);
         CHECK.due("fee by 0", desk.fee(0, 0, 1, 0, 1), 1);
         CHECK.due("no second line in 0", desk.fee(0, 0, 2, 0, 1), -2);
-        CHECK.due("fee by 2", desk.fee(2, 0, 1, 0, 1), 12);
+        CHECK.due("fee by 4", desk.fee(4, 0, 1, 0, 1), 12);
     }
 
     private static void promise4RefusedInOrder() {
@@ -122,6 +128,13 @@ public final class TariffTextTest {
         faulty("fe 1 is 1", 1, 0);
         faulty("feee1 is 1", 1, 0);
         faulty("value", 1, 0);
+        faulty("tee 1 is 1", 1, 0);
+        faulty("when 1 is 1", 1, 0);
+        faulty("fee 1 then value<1 is 1", 1, 6);
+        faulty("fee 1 fee value<1 is 1", 1, 6);
+        faulty("fee 1 us 1", 1, 6);
+        faulty("fee 1 when value<1 end port<1 is 1", 1, 19);
+        faulty("fee 1 when value<1 when port<1 is 1", 1, 19);
         faulty("fee", 1, 3);
         faulty("fee  ", 1, 5);
         faulty("fee value is 1", 1, 4);
@@ -159,6 +172,12 @@ public final class TariffTextTest {
         faulty("fee 1 is zomezomez", 1, 9);
         faulty("fee 1 when zome<1 is 1", 2, 11);
         faulty("fee 1 when values<1 is 1", 2, 11);
+        faulty("fee 1 when valu<1 is 1", 2, 11);
+        faulty("fee 1 is falue", 2, 9);
+        faulty("fee 1 is cheets", 2, 9);
+        faulty("fee 1 is sort", 2, 9);
+        faulty("fee 1 is healed", 2, 9);
+        faulty("fee 1 is sealer", 2, 9);
         faulty("fee 1 when value<1 and kind=1 is 1", 2, 23);
         faulty("fee 1 is 2*zome", 2, 11);
         faulty("fee 1 is 2*is", 1, 11);
