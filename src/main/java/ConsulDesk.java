@@ -203,8 +203,8 @@ public final class ConsulDesk {
         if (there == null || !isWorth(worth)) {
             return refuse(NO_SUCH);
         }
-        long then = (long) there.stampsOf(worth) + many;
-        if (then < 0 || then > FULL_STOCK) {
+        // Stamps come and are never fetched away: a number below 0 is refused though enough are there.
+        if (many < 0 || many > FULL_STOCK - there.stampsOf(worth)) {
             return refuse(BAD_NUMBER);
         }
         there.addStamps(worth, many);

@@ -4,6 +4,7 @@ public final class PaperTest {
 
     public static void main(String[] args) {
         promise13Stock();
+        promise13BelowNone();
         promise14Fee();
         promise14Sums();
         promise14Tests();
@@ -42,10 +43,29 @@ public final class PaperTest {
         CHECK.due("much more", desk.stock(0, 0, Integer.MAX_VALUE), -1);
         CHECK.due("trouble", desk.trouble(), 2);
         CHECK.due("it stays", desk.about(0, 4), 10000);
-        CHECK.due("fewer", desk.stock(0, 0, -9999), 1);
-        CHECK.due("too many fewer", desk.stock(0, 0, -2), -1);
+        CHECK.due("none more to all", desk.stock(0, 0, 0), 10000);
+        CHECK.due("trouble", desk.trouble(), 0);
         CHECK.due("another worth", desk.stock(0, 4, 7), 7);
         CHECK.due("and more", desk.stock(0, 4, 3), 10);
+        CHECK.due("up to all there can be", desk.stock(0, 4, 9990), 10000);
+    }
+
+    private static void promise13BelowNone() {
+        ConsulDesk desk = new ConsulDesk();
+        desk.port(1);
+        desk.stock(0, 0, 10000);
+        desk.stock(0, 1, 1);
+        for (int many : new int[] {-1, -2, -9999, -10000, -10001, Integer.MIN_VALUE}) {
+            for (int worth = 0; worth < 3; worth++) {
+                CHECK.due("stock(0, " + worth + ", " + many + ")", desk.stock(0, worth, many), -1);
+                CHECK.due("trouble", desk.trouble(), 2);
+            }
+            CHECK.due("none such ahead of a number", desk.stock(1, 0, many), -1);
+            CHECK.due("trouble", desk.trouble(), 1);
+        }
+        CHECK.due("all stay", desk.about(0, 4), 10000);
+        CHECK.due("the one stays", desk.about(0, 5), 1);
+        CHECK.due("none stay none", desk.about(0, 6), 0);
     }
 
     private static void fee(String text, int kind, int value, int sheets, int want) {

@@ -357,7 +357,7 @@ final class PlainDesk {
             return no(1);
         }
         long then = (long) ports.get(port).stock[worth] + many;
-        if (then < 0 || then > 10000) {
+        if (many < 0 || then > 10000) {
             return no(2);
         }
         ports.get(port).stock[worth] = (int) then;
