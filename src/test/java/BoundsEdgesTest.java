@@ -18,6 +18,7 @@ public final class BoundsEdgesTest {
         promise8Beyond();
         lastDay();
         promise24Others();
+        lastCall();
         CHECK.end();
     }
 
@@ -245,6 +246,27 @@ public final class BoundsEdgesTest {
         CHECK.due("count(5)", desk.count(5), -1);
         for (int what : FAR) {
             CHECK.due("count(" + what + ")", desk.count(what), -1);
+        }
+    }
+
+    private static void lastCall() {
+        CHECK.of("What it is", "An object is used for at most 512 calls after it has been made");
+        ConsulDesk days = new ConsulDesk();
+        for (int call = 1; call <= 512; call++) {
+            CHECK.due("call " + call + ", pass(1)", days.pass(1), call);
+        }
+        ConsulDesk texts = new ConsulDesk();
+        for (int call = 1; call <= 511; call += 2) {
+            CHECK.due("call " + call, texts.feed(0x66656531, 0x20202020, 0x20202020, 0x20202020, 0x20202020), 20);
+            CHECK.due("call " + (call + 1), texts.tariff(20), -1);
+        }
+        ConsulDesk papers = new ConsulDesk();
+        papers.port(1);
+        Desks.tell(papers, "fee 1 is 1");
+        papers.pass(1);
+        papers.stock(0, 0, 200);
+        for (int call = 7; call <= 512; call++) {
+            CHECK.due("call " + call + ", a seal", papers.seal(0, 1, 1, 1), call - 7 < 200 ? call - 7 : -1);
         }
     }
 }

@@ -145,7 +145,8 @@ public final class DispatchEdgesTest {
     }
 
     private static void termsIIIAsksOnTheFirstDay() {
-        CHECK.of("Terms III", "A PORT ASKS for a number on the first DAY on which a greater one has come and it hasn't");
+        CHECK.of("Terms III",
+            "A PORT ASKS for a number on the first DAY on which a greater one has come and it hasn't");
         for (int days : DAYS) {
             ConsulDesk desk = sent(days, 1);
             desk.lost(0, 0);
@@ -261,7 +262,8 @@ public final class DispatchEdgesTest {
     }
 
     private static void termsIIIInForceOnThatDay() {
-        CHECK.of("Terms III", "the greatest number such that it and all lesser ones have come by then (on that DAY, too)");
+        CHECK.of("Terms III",
+            "the greatest number such that it and all lesser ones have come by then (on that DAY, too)");
         for (int days : DAYS) {
             ConsulDesk desk = sent(days, 1);
             CHECK.due("on day 0, of " + days, desk.force(0), -2);
@@ -488,13 +490,18 @@ public final class DispatchEdgesTest {
 
     private static void promise12Accounts() {
         CHECK.of("Promise 12", "2 ACCOUNTS");
-        int[][] cases = {{1, 0, 0}, {1, 1, 0}, {30, 1, 1}, {30, 29, 1}, {30, 30, 0}, {30, 31, 1}, {59, 58, 2},
-            {59, 59, 1}, {60, 59, 2}, {60, 60, 1}, {60, 61, 2}, {60, 89, 2}, {60, 90, 1}, {60, 91, 2}, {60, 120, 1}};
+        // How far away, opened on which day, on which day: how many.
+        int[][] cases = {{1, 0, 0, 0}, {1, 0, 1, 0}, {30, 0, 1, 1}, {30, 0, 29, 1}, {30, 0, 30, 0}, {30, 0, 31, 1},
+            {59, 0, 58, 2}, {59, 0, 59, 1}, {60, 0, 59, 2}, {60, 0, 60, 1}, {60, 0, 61, 2}, {60, 0, 89, 2},
+            {60, 0, 90, 1}, {60, 0, 91, 2}, {60, 0, 120, 1}, {60, 29, 30, 0}, {60, 29, 31, 1}, {60, 30, 30, 0},
+            {60, 30, 31, 1}, {60, 30, 89, 2}, {60, 30, 90, 1}, {60, 31, 60, 0}, {60, 31, 61, 1}, {60, 9000, 9000, 0},
+            {60, 9000, 9001, 1}, {1, 9000, 9001, 0}};
         for (int[] c : cases) {
             ConsulDesk desk = new ConsulDesk();
-            desk.port(c[0]);
             Desks.pass(desk, c[1]);
-            CHECK.due("of a port " + c[0] + " away on day " + c[1], desk.under(2), c[2]);
+            desk.port(c[0]);
+            Desks.pass(desk, c[2] - c[1]);
+            CHECK.due("of a port " + c[0] + " away, opened on day " + c[1] + ", on day " + c[2], desk.under(2), c[3]);
         }
     }
 }

@@ -240,7 +240,7 @@ public final class PaperEdgesTest {
         taken(5, row(5, 2, 1, 0, 0), row(0, 0, 1, 0, 0));
         taken(2, row(2, 1, 0, 0, 0), row(0, 1, 0, 0, 0));
         taken(12, row(2, 1, 2, 1, 0), row(0, 1, 0, 1, 0));
-        // No stock has two choices that are as few: a table of all choices of small stocks says so.
+        // The rule has nothing to decide in small stocks: no two choices of one fee are both the fewest.
         CHECK.due("choices as few as the fewest", mostChoices(row(3, 6, 3, 3, 2)), 1);
         CHECK.due("choices as few as the fewest", mostChoices(row(5, 2, 9, 4, 1)), 1);
     }

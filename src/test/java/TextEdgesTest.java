@@ -49,6 +49,7 @@ public final class TextEdgesTest {
         promise3Full();
         promise3HighestFirst();
         promise4FirstBytes();
+        promise4TokensEndAtN();
         promise4NumberOfBytes();
         promise4TapeBehind();
         promise4Order();
@@ -148,6 +149,30 @@ public final class TextEdgesTest {
             CHECK.due("trouble() of " + n, desk.trouble(), sound ? 0 : 4);
             CHECK.due("count(4) of " + n, desk.count(4), 0);
         }
+    }
+
+    /** A token that goes on behind the first n bytes ends with them. */
+    private static void promise4TokensEndAtN() {
+        CHECK.of("Promise 4", "The first n bytes of THE TAPE");
+        int[][] digits = {{10, 1}, {11, 12}, {12, 123}};
+        for (int[] d : digits) {
+            cutAt("fee 1 is 1234", d[0], d[1]);
+        }
+        cutAt("fee 1 is values", 14, 77);
+        cutAt("fee 1 is value/1234", 16, 77);
+        cutAt("fee 1 is value/1234", 17, 6);
+        ConsulDesk desk = new ConsulDesk();
+        Desks.feed(desk, "fee 1 is value");
+        CHECK.due("a word that ends too soon", desk.tariff(13), -1);
+        CHECK.due("its fault", desk.fault(), 2);
+    }
+
+    private static void cutAt(String text, int n, int want) {
+        ConsulDesk desk = new ConsulDesk();
+        desk.port(1);
+        Desks.feed(desk, text);
+        CHECK.due("tariff(" + n + ") of \"" + text + "\"", desk.tariff(n), 0);
+        CHECK.due("its fee", desk.fee(0, 0, 1, 77, 1), want);
     }
 
     private static void promise4NumberOfBytes() {
@@ -309,7 +334,8 @@ public final class TextEdgesTest {
     private static void termsIIEveryWord() {
         CHECK.of("Terms II", "TOKEN with which no text goes on");
         String[] words = {"fee", "when", "and", "is", "value", "sheets", "port", "sealed", "zome", "values", "valu",
-            "feee", "fe", "kind", "abcdefgh"};
+            "feee", "fe", "tee", "then", "end", "us", "falue", "cheets", "sort", "healed", "sealer", "ports", "an",
+            "whe", "iss", "kind", "abcdefgh"};
         for (Broken broken : BROKEN) {
             for (String word : words) {
                 behind(broken, word);
@@ -346,7 +372,8 @@ public final class TextEdgesTest {
     }
 
     private static void termsIINoName() {
-        CHECK.of("Terms II", "2 a WORD that is no NAME where one is to be (fee, when, and, is: there they are 1); at it.");
+        CHECK.of("Terms II",
+            "2 a WORD that is no NAME where one is to be (fee, when, and, is: there they are 1); at it.");
         String[] ahead = {"fee 1 when ", "fee 1 when port<1 and ", "fee 1 is ", "fee 1 is 1+", "fee 1 is 2*"};
         for (String text : ahead) {
             faulty(text + "zome", 2, text.length());
