@@ -1025,27 +1025,33 @@ public final class ConsulDesk {
         int[] fewest(int[] stock, int fee) {
             best = null;
             bestMany = 0;
-            tryWorth(stock, WORTHS.length - 1, fee, 0);
+            tryWorth(this, stock, WORTHS.length - 1, fee, 0);
             return best;
         }
 
+        private void keepIfFewer(int many) {
+            if (best == null || many < bestMany) {
+                best = tried.clone();
+                bestMany = many;
+            }
+        }
+
         /** Tries more of the greater worths first: of as few stamps what is found first stays. */
-        private void tryWorth(int[] stock, int worth, int rest, int many) {
+        private static void tryWorth(Change change, int[] stock, int worth, int rest, int many) {
             if (worth < 0) {
-                if (rest == 0 && (best == null || many < bestMany)) {
-                    best = tried.clone();
-                    bestMany = many;
+                if (rest == 0) {
+                    change.keepIfFewer(many);
                 }
                 return;
             }
             if (worth >= stock.length || worth >= WORTHS.length || worth >= SPARED.length
-                || worth >= tried.length || WORTHS[worth] <= 0) {
+                || worth >= change.tried.length || WORTHS[worth] <= 0) {
                 return;
             }
             int most = Math.min(stock[worth], rest / WORTHS[worth]);
             for (int taken = most; taken >= Math.max(0, most - SPARED[worth]); taken--) {
-                tried[worth] = taken;
-                tryWorth(stock, worth - 1, rest - taken * WORTHS[worth], many + taken);
+                change.tried[worth] = taken;
+                tryWorth(change, stock, worth - 1, rest - taken * WORTHS[worth], many + taken);
             }
         }
     }

@@ -1,6 +1,8 @@
 /** Runs of calls made by dice, of at most 512 each, answered by the program and by PlainDesk. */
 public final class AgainstPlainTest {
     private static final Check CHECK = new Check("AgainstPlainTest");
+    private static int fullTariffs = 0;
+    private static int fullPapers = 0;
 
     private final Dice dice;
     private final Texts texts;
@@ -19,6 +21,8 @@ public final class AgainstPlainTest {
         for (int run = 0; run < 1500 && CHECK.wrong() < 20; run++) {
             new AgainstPlainTest(run).go();
         }
+        CHECK.due("runs filled up the tariffs", fullTariffs > 20, true);
+        CHECK.due("runs filled up the papers", fullPapers > 20, true);
         CHECK.end();
     }
 
@@ -26,15 +30,39 @@ public final class AgainstPlainTest {
         int ports = 1 + dice.roll(4);
         int wild = dice.once(5) ? 3 : 12;
         int longest = dice.once(3) ? 400 : 1 + dice.roll(60);
-        for (int i = 0; i < ports; i++) {
+        int crowd = dice.roll(8);
+        for (int i = 0; i < (crowd == 1 ? 8 : ports); i++) {
             port(1 + dice.roll(dice.once(2) ? 60 : 8));
         }
+        if (crowd == 2) {
+            readyToSeal();
+        }
         while (calls < 480) {
+            if (crowd == 1 && dice.once(3)) {
+                tell("fee " + dice.roll(4) + " is " + dice.roll(60), false);
+            }
+            if (crowd == 2 && !dice.once(40)) {
+                sealOne(portNumber(), dice.roll(3), dice.roll(300), 1 + dice.roll(9));
+                continue;
+            }
             act(wild, longest);
             due("trouble()", desk.trouble(), plain.trouble());
             ask();
             ask();
         }
+        fullTariffs += plain.count(1) == 30 ? 1 : 0;
+        fullPapers += plain.count(2) == 200 ? 1 : 0;
+    }
+
+    /** Papers fill up only in runs that do little else: the stamps for them must be there ahead. */
+    private void readyToSeal() {
+        tell("fee 1 is sealed / 7 + port; fee 2 when value > 200 is value / 9; fee 2 is sheets", false);
+        for (int port = 0; port < plain.count(0); port++) {
+            for (int worth = 0; worth < 5; worth++) {
+                due("stock", desk.stock(port, worth, 900), plain.stock(port, worth, 900));
+            }
+        }
+        pass(60);
     }
 
     private void due(String call, long got, long want) {
@@ -129,11 +157,16 @@ public final class AgainstPlainTest {
         int k = strange && dice.once(3) ? wildNumber() : dice.roll(4);
         int v = strange && dice.once(3) ? wildNumber() : value();
         int s = strange && dice.once(3) ? wildNumber() : 1 + dice.roll(9);
-        int answer = plain.seal(p, k, v, s);
-        due("seal(" + p + ", " + k + ", " + v + ", " + s + ")", desk.seal(p, k, v, s), answer);
+        int answer = sealOne(p, k, v, s);
         for (int worth = 0; worth < 5 && answer >= 0; worth++) {
             due("stamps(" + answer + ", " + worth + ")", desk.stamps(answer, worth), plain.stamps(answer, worth));
         }
+    }
+
+    private int sealOne(int p, int k, int v, int s) {
+        int answer = plain.seal(p, k, v, s);
+        due("seal(" + p + ", " + k + ", " + v + ", " + s + ")", desk.seal(p, k, v, s), answer);
+        return answer;
     }
 
     private void ask() {
